@@ -30,7 +30,7 @@ public final class ClerkVotes {
 
     private final State now = new State();
     private final State trial = new State();
-    // One state more than can be undone: the one that a change may yet turn out not to need.
+    // One state more than can be undone: each change notes the state before it ahead of knowing whether it is an error.
     private final State[] history = new State[MOST_UNDO + 1];
     private int nextInHistory;
     private int undoable;
@@ -258,11 +258,11 @@ public final class ClerkVotes {
     }
 
     private static boolean isIn(int set, int number) {
-        return (set >> number & 1) == 1;
+        return ((set >> number) & 1) == 1;
     }
 
     private static int codeAt(long characters, int fromEnd) {
-        return (int) (characters >>> 8 * fromEnd & 255);
+        return (int) ((characters >>> (8 * fromEnd)) & 255);
     }
 
     /** How many characters the number holds; 0 if it is not a number of characters. */
@@ -270,7 +270,7 @@ public final class ClerkVotes {
         for (int i = 0; i < MOST_CHARACTERS; i++) {
             int code = codeAt(characters, i);
             if (code == 0) {
-                return characters >>> 8 * i == 0 ? i : 0;
+                return (characters >>> (8 * i)) == 0 ? i : 0;
             }
             if (code < 33 || code > 126) {
                 return 0;
@@ -387,7 +387,7 @@ public final class ClerkVotes {
         private boolean takesRisingClerk(int character) {
             int clerk = character - '0';
             // The digits rise if and only if the new clerk's bit is above all bits of the set.
-            if (clerk < 0 || clerk >= CLERKS || 1 << clerk <= value) {
+            if (clerk < 0 || clerk >= CLERKS || (1 << clerk) <= value) {
                 return false;
             }
             value |= 1 << clerk;
@@ -962,7 +962,7 @@ public final class ClerkVotes {
             if (forBetween[deal] == POST || forBetween[deal] == DONE) {
                 return 1;
             }
-            return forBetween[deal] == TEAR || whoStand(deal, TORN) != 0 ? 2 : 0;
+            return (forBetween[deal] == TEAR || whoStand(deal, TORN) != 0) ? 2 : 0;
         }
 
         int whoFindsOut(int deal) {
@@ -973,7 +973,7 @@ public final class ClerkVotes {
             int eldersWhoKnow = clerksOf[deal] & ~ready & ~illOnes;
             boolean betweenTells = !isIll(BETWEEN) && forBetween[deal] != ASKING;
             boolean elderTells = settings[ELDERS] == 1 && eldersWhoKnow != 0;
-            return betweenTells || elderTells ? ready & ~illOnes : 0;
+            return (betweenTells || elderTells) ? ready & ~illOnes : 0;
         }
     }
 }

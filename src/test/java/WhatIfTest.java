@@ -9,6 +9,7 @@ public final class WhatIfTest {
         couldAskElders();
         settledIn();
         settledInNever();
+        settledLate();
         settledAtTheLimit();
         underwayIn();
         worstLoss();
@@ -161,15 +162,13 @@ public final class WhatIfTest {
         checks.due("all are READY, elders do not help", x.settledIn(0), -6);
     }
 
-    private static void settledAtTheLimit() {
-        checks.about("promise 18, 200 rounds");
-        // The row is full of messages; DOUBT, AGAIN and PATIENCE are 50: what is late is late by 50 rounds.
+    private static void settledLate() {
+        checks.about("promise 18, late");
         ClerkVotes x = new ClerkVotes();
         x.set(0, 50);
         x.open(1);
         x.lose(0);
         checks.due("patience of 50", x.settledIn(0), 52);
-        // POST with the POSTS lost, AGAIN 50, DOUBT 50.
         ClerkVotes y = new ClerkVotes();
         y.set(1, 50);
         y.set(2, 49);
@@ -181,6 +180,55 @@ public final class WhatIfTest {
         y.set(2, 50);
         y.fall(4);
         checks.due("nobody tells", y.settledIn(0), -6);
+    }
+
+    /**
+     * Every 50 ticks, deals 0 to 3 fill the row with questions that nobody can answer, but for three places; so in each
+     * such tick just one of the deals 4 to 7 gets its question to the elder who knows. Deal 7 asks in tick 200.
+     */
+    private static ClerkVotes crowded() {
+        ClerkVotes x = new ClerkVotes();
+        x.set(1, 50);
+        x.set(3, 1);
+        int[] deals = {15, 15, 15, 7, 12, 12, 12, 12};
+        for (int clerks : deals) {
+            x.open(clerks);
+        }
+        for (int i = 0; i < 15; i++) {
+            x.deliver(0);
+        }
+        x.willing(2, 0);
+        for (int i = 0; i < 8; i++) {
+            x.deliver(0);
+        }
+        x.fall(4);
+        return x;
+    }
+
+    private static void settledAtTheLimit() {
+        checks.about("promises 18 and 20, 200 rounds");
+        ClerkVotes x = crowded();
+        checks.due("settledIn(4)", x.settledIn(4), 53);
+        checks.due("settledIn(5)", x.settledIn(5), 103);
+        checks.due("settledIn(6)", x.settledIn(6), 153);
+        checks.due("settledIn(7), 203 rounds", x.settledIn(7), -6);
+        checks.due("worstLoss(7, 1)", x.worstLoss(7, 1), 201);
+        x.ticks(2);
+        checks.due("settledIn(7), 201 rounds", x.settledIn(7), -6);
+        checks.due("worstLoss(7, 1)", x.worstLoss(7, 1), 201);
+        x.ticks(1);
+        checks.due("settledIn(7), 200 rounds", x.settledIn(7), 200);
+        checks.due("worstLoss(7, 1)", x.worstLoss(7, 1), 200);
+        checks.due("worstLoss(7, 0)", x.worstLoss(7, 0), 0);
+        while (x.count(2) > 0) {
+            x.lose(0);
+        }
+        x.ticks(50);
+        checks.due("messages", x.count(2), 60);
+        checks.due("settledIn(7), 150 rounds", x.settledIn(7), 150);
+        checks.due("worstLoss(7, 1), one question is lost", x.worstLoss(7, 1), 200);
+        int place = x.worstLoss(7, 0);
+        checks.holds("it is the one of deal 4 to the elder", Everything.message(x, place) == 6432);
     }
 
     private static void underwayIn() {
