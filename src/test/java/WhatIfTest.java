@@ -186,7 +186,7 @@ public final class WhatIfTest {
      * Every 50 ticks, deals 0 to 3 fill the row with questions that nobody can answer, but for three places; so in each
      * such tick just one of the deals 4 to 7 gets its question to the elder who knows. Deal 7 asks in tick 200.
      */
-    private static ClerkVotes crowded() {
+    static ClerkVotes crowded() {
         ClerkVotes x = new ClerkVotes();
         x.set(1, 50);
         x.set(3, 1);
