@@ -5,7 +5,7 @@ public final class RandomRunsTest {
 
     private long seed;
     private String call;
-    // How one run leans: towards deals and ticks, towards full rows, towards illness, towards texts.
+    // How one run leans: 2 towards illness, 3 towards texts, 4 towards full rows, 5 towards deals that are settled late.
     private int leaning;
 
     public static void main(String[] args) {
@@ -22,6 +22,8 @@ public final class RandomRunsTest {
         }
         System.out.println("settledIn: now " + seen[0] + ", in 1 to 5 rounds " + (seen[1] + seen[2] + seen[3] + seen[4] + seen[5])
                 + ", in 60 to 200 rounds " + late + ", never " + seen[201]);
+        checks.about("random runs");
+        checks.holds("deals that are settled late are among them", runs < RUNS || late > 100);
         checks.end();
     }
 
@@ -44,12 +46,12 @@ public final class RandomRunsTest {
 
     private void run(int run, Checks checks, int[] seen) {
         seed = run * 7919L + 17;
-        leaning = random(5);
+        leaning = random(6);
         ClerkVotes x = new ClerkVotes();
         PlainModel model = new PlainModel();
         StringBuilder calls = new StringBuilder();
         for (int i = 0; i < CALLS; i++) {
-            int[] answers = step(x, model);
+            int[] answers = leaning == 5 && i < 120 ? crowd(i, x, model) : step(x, model);
             calls.append(call).append(' ');
             checks.due(call, answers[0], answers[1]);
             if (call.startsWith("settledIn") && (answers[1] >= 0 || answers[1] == -6)) {
@@ -77,6 +79,47 @@ public final class RandomRunsTest {
             return undo(x, model);
         }
         return look(x, model);
+    }
+
+    /** Questions of many deals that nobody can answer fill the row, so that others are settled late or never. */
+    private int[] crowd(int i, ClerkVotes x, PlainModel model) {
+        if (i < 3) {
+            int setting = new int[] {1, 3, 0}[i];
+            int value = setting == 3 ? 1 : 50 - random(3);
+            call = "set(" + setting + ", " + value + ")";
+            return both(x.set(setting, value), model.set(setting, value));
+        }
+        if (i < 11) {
+            int clerks = i < 7 ? 15 - random(3) * random(3) : new int[] {12, 12, 12, 7, 3, 10}[random(6)];
+            call = "open(" + clerks + ")";
+            return both(x.open(clerks), model.open(clerks));
+        }
+        if (i == 26) {
+            call = "willing(2, 0)";
+            return both(x.willing(2, 0), model.willing(2, 0));
+        }
+        if (i < 35) {
+            call = "deliver(0)";
+            return both(x.deliver(0), model.deliver(0));
+        }
+        if (i == 35) {
+            call = "fall(4)";
+            return both(x.fall(4), model.fall(4));
+        }
+        if (i % 28 == 8) {
+            int ticks = 1 + random(i < 40 ? 6 : 60);
+            call = "ticks(" + ticks + ")";
+            return both(x.ticks(ticks), model.ticks(ticks));
+        }
+        if (i % 28 < 20) {
+            int deal = random(8);
+            int what = random(2);
+            boolean worst = i % 7 == 0;
+            call = worst ? "worstLoss(" + deal + ", " + what + ")" : "settledIn(" + deal + ")";
+            return worst ? both(x.worstLoss(deal, what), model.worstLoss(deal, what)) : both(x.settledIn(deal), model.settledIn(deal));
+        }
+        call = "deliver(0)";
+        return both(x.deliver(0), model.deliver(0));
     }
 
     private static int[] both(int one, int other) {

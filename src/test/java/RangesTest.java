@@ -164,11 +164,10 @@ public final class RangesTest {
 
     private static void who() {
         checks.about("promise 14, ranges");
-        ClerkVotes x = withMessages(60);
-        Ranges.errorOutside(checks, "who(who, 0)", a -> x.who(a, 0), 0, 4, NO_SUCH);
+        Ranges.errorOutside(checks, "who(who, 0)", a -> withMessages(60).who(a, 0), 0, 4, NO_SUCH);
         for (int who = 0; who <= 4; who++) {
             int w = who;
-            Ranges.errorOutside(checks, "who(" + w + ", what)", a -> x.who(w, a), 0, 4, BAD_VALUE);
+            Ranges.errorOutside(checks, "who(" + w + ", what)", a -> withMessages(60).who(w, a), 0, 4, BAD_VALUE);
         }
     }
 

@@ -27,6 +27,7 @@ public final class UndoLimitsTest {
         sinceWhenIsKept();
         sinceWhenIsUndone();
         receiptsAndVotesAreKept();
+        allDealsOfAllClerksAreKept();
         checks.end();
     }
 
@@ -404,5 +405,45 @@ public final class UndoLimitsTest {
         checks.due("votes", x.ofDeal(0, 3), 3);
         x.restore(0);
         checks.due("no vote", x.ofDeal(0, 3), 0);
+    }
+
+    private static void allDealsOfAllClerksAreKept() {
+        checks.about("promises 25 and 27, each of 8 deals for each of 4 clerks");
+        ClerkVotes x = new ClerkVotes();
+        x.set(0, 50);
+        for (int deal = 0; deal < 8; deal++) {
+            x.open(15);
+        }
+        x.save(1);
+        // All become READY in the tick in which the saved state is, and otherwise three ticks later.
+        readyAll(x);
+        x.save(0);
+        x.restore(1);
+        x.ticks(3);
+        readyAll(x);
+        x.restore(0);
+        checkAsksInTick(x, 4);
+        x.undo();
+        x.undo();
+        x.undo();
+        checks.due("tick", x.count(0), 3);
+        checkAsksInTick(x, 7);
+    }
+
+    private static void readyAll(ClerkVotes x) {
+        for (int i = 0; i < 32; i++) {
+            x.deliver(0);
+            x.lose(x.count(2) - 1);
+        }
+    }
+
+    private static void checkAsksInTick(ClerkVotes x, int tick) {
+        x.ticks(tick - x.count(0));
+        row(x, "");
+        x.ticks(1);
+        checks.due("a question for each deal of each clerk", x.count(2), 32);
+        for (int place = 0; place < 32; place++) {
+            checks.due("message(" + place + ")", Everything.message(x, place), 6004 + place % 8 * 100 + place / 8 * 10);
+        }
     }
 }
