@@ -1,15 +1,60 @@
 import java.io.IOException;
+import java.lang.reflect.Field;
+import java.lang.reflect.Method;
+import java.lang.reflect.Modifier;
 import java.nio.file.Files;
 import java.nio.file.Path;
+import java.util.HashSet;
 import java.util.List;
+import java.util.Set;
 import java.util.regex.Matcher;
 import java.util.regex.Pattern;
 
-/** What can be seen in the text of the class of the rules of LANGUAGE.md. It is run from the project's folder. */
+/** What can be seen of the rules of LANGUAGE.md in the text of the class and by reflection. It is run from the project's folder. */
 public final class LanguageTest {
     private static final Checks checks = new Checks();
 
     public static void main(String[] args) throws IOException {
+        lines();
+        Class<?>[] inside = ClerkVotes.class.getDeclaredClasses();
+        members(ClerkVotes.class);
+        for (Class<?> one : inside) {
+            members(one);
+            checks.about("language, rule 2");
+            checks.holds(one + " is static", Modifier.isStatic(one.getModifiers()));
+            checks.holds(one + " is not public", !Modifier.isPublic(one.getModifiers()) && !Modifier.isProtected(one.getModifiers()));
+            checks.holds(one + " has no classes inside", one.getDeclaredClasses().length == 0);
+        }
+        checks.about("language, rule 11");
+        checks.holds("there are at most twelve classes", inside.length < 12);
+        checks.end();
+    }
+
+    private static void members(Class<?> one) {
+        Set<String> face = new HashSet<>();
+        for (Method method : ClerkVotes.class.getDeclaredMethods()) {
+            if (Modifier.isPublic(method.getModifiers())) {
+                face.add(method.getName());
+            }
+        }
+        for (Method method : one.getDeclaredMethods()) {
+            checks.about("language, rules 1 and 11");
+            boolean ofTheFace = one == ClerkVotes.class && Modifier.isPublic(method.getModifiers());
+            checks.holds(method + " does not bear the name of a public one", ofTheFace || !face.contains(method.getName()));
+            checks.holds(method + " takes at most seven parameters", method.getParameterCount() <= 7);
+        }
+        int fields = 0;
+        for (Field field : one.getDeclaredFields()) {
+            checks.about("language, rule 5");
+            boolean isStatic = Modifier.isStatic(field.getModifiers());
+            checks.holds(field + " is final if it is static", !isStatic || Modifier.isFinal(field.getModifiers()));
+            fields += isStatic ? 0 : 1;
+        }
+        checks.about("language, rule 11");
+        checks.holds(one + " has at most twenty fields, but it has " + fields, fields <= 20);
+    }
+
+    private static void lines() throws IOException {
         checks.about("language");
         List<String> lines = Files.readAllLines(Path.of("src/main/java/ClerkVotes.java"));
         checks.holds("the class is there", lines.size() > 100);
@@ -30,7 +75,6 @@ public final class LanguageTest {
                 methodStart = -1;
             }
         }
-        checks.end();
     }
 
     private static String withoutComment(String line) {

@@ -9,6 +9,7 @@ public final class LooksLimitsTest {
         sameVoteAndReceiptOnceMore();
         standingsAreApart();
         noPart();
+        noPartBetweenOtherDeals();
         messagesAtBothEnds();
         messagesToEach();
         deliveredToEach();
@@ -133,6 +134,43 @@ public final class LooksLimitsTest {
                 checks.due("at(0, " + clerk + ") of " + clerks, x.at(0, clerk), (clerks >> clerk & 1) == 1 ? 2 : NONE);
             }
             checks.due("at(0, 4)", x.at(0, 4), NO_SUCH);
+        }
+    }
+
+    private static void noPartBetweenOtherDeals() {
+        checks.about("promise 12, takes no part, and what the deals ahead and behind are does not matter");
+        // By turns a deal of all clerks and one of clerk 3 alone, so that clerks 0 to 2 take no part in every second deal.
+        for (int first = 0; first <= 1; first++) {
+            ClerkVotes x = new ClerkVotes();
+            for (int deal = 0; deal < 8; deal++) {
+                x.open(deal % 2 == first ? 15 : 8);
+            }
+            dueNoPart(x, first, "NEW", 0);
+            for (int i = 0; i < 20; i++) {
+                x.deliver(0);
+            }
+            dueNoPart(x, first, "READY", 1);
+            while (x.count(2) > 0) {
+                x.deliver(0);
+            }
+            dueNoPart(x, first, "POSTED", 2);
+            ClerkVotes y = new ClerkVotes();
+            for (int deal = 0; deal < 8; deal++) {
+                y.open(deal % 2 == first ? 15 : 8);
+            }
+            for (int clerk = 0; clerk <= 3; clerk++) {
+                y.fall(clerk);
+            }
+            dueNoPart(y, first, "TORN", 3);
+        }
+    }
+
+    private static void dueNoPart(ClerkVotes x, int first, String others, int standing) {
+        for (int deal = 0; deal < 8; deal++) {
+            for (int clerk = 0; clerk <= 3; clerk++) {
+                int want = deal % 2 == first || clerk == 3 ? standing : NONE;
+                checks.due("at(" + deal + ", " + clerk + "), others " + others, x.at(deal, clerk), want);
+            }
         }
     }
 
